@@ -1,11 +1,10 @@
-import java.util.Random;
-
 /** All promises: long runs of calls, the same on a SheetRows and on the plain reading of the document. */
 public final class PlainRunsTest {
     private static final int RUNS = 150;
     private static final int CALLS = 512;
 
-    private final Random random;
+    // Made by counting on from the run's number, so that every time the same calls are made.
+    private long state;
     private final SheetRows sheet;
     private final PlainSheet plain;
     private final int width;
@@ -21,16 +20,21 @@ public final class PlainRunsTest {
     }
 
     private PlainRunsTest(int seed) {
-        random = new Random(seed);
+        state = seed;
         int most = seed % 5 == 0 ? 52 : 12;
-        int givenWidth = random.nextInt(most) - 1;
-        int givenHeight = random.nextInt(most) - 1;
+        int givenWidth = below(most) - 1;
+        int givenHeight = below(most) - 1;
         sheet = new SheetRows(givenWidth, givenHeight);
         plain = new PlainSheet(givenWidth, givenHeight);
         width = Math.max(1, Math.min(48, givenWidth));
         height = Math.max(1, Math.min(48, givenHeight));
-        fewGreys = new int[] {2, 3, 8, 256}[random.nextInt(4)];
+        fewGreys = new int[] {2, 3, 8, 256}[below(4)];
         run = "run " + seed + " (" + givenWidth + ", " + givenHeight + ") ";
+    }
+
+    private int below(int end) {
+        state = state * 6364136223846793005L + 1442695040888963407L;
+        return (int) ((state >>> 33) % end);
     }
 
     private void go() {
@@ -43,9 +47,9 @@ public final class PlainRunsTest {
 
     /** Many greys at once, by calls that are not counted among the 512: these only set the stage. */
     private void fillSheets() {
-        int bright = random.nextInt(10);
+        int bright = below(10);
         for (int i = 0; i < width * height; i++) {
-            if (random.nextInt(10) >= bright) {
+            if (below(10) >= bright) {
                 byte v = anyGrey();
                 sheet.put(i % width, i / width, v);
                 plain.put(i % width, i / width, v);
@@ -54,17 +58,17 @@ public final class PlainRunsTest {
     }
 
     private byte anyGrey() {
-        return (byte) (random.nextInt(fewGreys) * (255 / (fewGreys - 1)));
+        return (byte) (below(fewGreys) * (255 / (fewGreys - 1)));
     }
 
     private int anyAround(int end) {
-        return random.nextInt(20) == 0 ? new int[] {-1, end, Integer.MIN_VALUE, Integer.MAX_VALUE}[random.nextInt(4)]
-            : random.nextInt(end);
+        return below(20) == 0 ? new int[] {-1, end, Integer.MIN_VALUE, Integer.MAX_VALUE}[below(4)]
+            : below(end);
     }
 
     private void oneCall(int call) {
         String at = run + "call " + call + " ";
-        switch (random.nextInt(14)) {
+        switch (below(14)) {
             case 0, 1, 2 -> samePut(at);
             case 3 -> Check.due(at + "threshold()", sheet.threshold(), plain.threshold());
             case 4 -> Check.due(at + "inverted()", sheet.inverted(), plain.inverted());
@@ -72,7 +76,7 @@ public final class PlainRunsTest {
             case 6 -> sameParts(at);
             case 7 -> Check.due(at + "skew()", sheet.skew(), plain.skew());
             case 8 -> {
-                int b = random.nextInt(210) - 105;
+                int b = below(210) - 105;
                 Check.due(at + "turn(" + b + ")", sheet.turn(b), plain.turn(b));
             }
             case 9 -> Check.due(at + "pack()", sheet.pack(), plain.pack());
@@ -80,7 +84,7 @@ public final class PlainRunsTest {
             case 11 -> sameAdds();
             case 12 -> Check.due(at + "unpack()", sheet.unpack(), plain.unpack());
             default -> {
-                int other = random.nextInt(12) == 0 ? 3 : random.nextInt(4) == 3 ? 4 : random.nextInt(3);
+                int other = below(12) == 0 ? 3 : below(4) == 3 ? 4 : below(3);
                 Check.due(at + "side(" + other + ")", sheet.side(other), plain.side(other));
             }
         }
@@ -128,21 +132,23 @@ public final class PlainRunsTest {
     private void sameAdds() {
         int left = width * height;
         for (int pairs = 0; left > 0 && pairs < 60; pairs++) {
-            int count = Math.min(left, pairs < 50 ? 1 + random.nextInt(Math.min(255, 1 + left / 3)) : 255);
+            int count = Math.min(left, pairs < 50 ? 1 + below(Math.min(255, 1 + left / 3)) : 255);
             left -= count;
-            addBoth(random.nextInt(60) == 0 ? random.nextInt(256) : count);
-            if (random.nextInt(60) != 0) {
+            addBoth(below(60) == 0 ? below(256) : count);
+            if (below(60) != 0) {
                 addBoth(anyGrey());
             }
         }
-        if (random.nextInt(10) == 0) {
-            addBoth(random.nextInt(3));
+        if (below(10) == 0) {
+            addBoth(below(3));
         }
     }
 
     private void sameGreys() {
         for (int i = 0; i < width * height; i++) {
-            Check.due(run + "grey " + i + " at the end", sheet.grey(i % width, i / width), plain.grey(i % width, i / width));
+            int x = i % width;
+            int y = i / width;
+            Check.due(run + "grey(" + x + ", " + y + ") at the end", sheet.grey(x, y), plain.grey(x, y));
         }
     }
 }

@@ -3,7 +3,7 @@ import java.util.ArrayList;
 import java.util.List;
 import java.util.TreeMap;
 
-/** The document's words put into code as plainly as can be, without a thought of speed: what SheetRows is compared with. */
+/** The document's words as plain code, without a thought of speed: what SheetRows is compared with. */
 final class PlainSheet {
     private final int width;
     private final int height;

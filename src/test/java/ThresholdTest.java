@@ -5,6 +5,7 @@ public final class ThresholdTest {
         twoGreys();
         meansAreCut();
         farGreysWeighMore();
+        bothSidesOfTheMeanCount();
         moreThanHalfIsInverted();
         nothingChanges();
         Check.end("ThresholdTest");
@@ -51,6 +52,13 @@ public final class ThresholdTest {
         due(new int[] {0, 10, 60, 255}, 60, true);
         // t = 0: 0 + 100. t = 50: 66 + 50. By squares of the distances t = 50 would be the better one.
         due(new int[] {0, 0, 50, 100, 150}, 0, false);
+    }
+
+    private static void bothSidesOfTheMeanCount() {
+        // The spreads: 6 at 0, 5 at 1, 5 at 2, 4 at 3. Above the means alone 0 has the least, below them alone 1.
+        due(new int[] {0, 1, 2, 3, 6}, 3, true);
+        // The spreads: 5 at 0, 4 at 1, 2 and 3.
+        due(new int[] {0, 1, 2, 3, 5}, 1, false);
     }
 
     private static void moreThanHalfIsInverted() {

@@ -114,7 +114,7 @@ public final class UnpackTest {
         }
     }
 
-    /** Bytes behind the 4608 that the largest sheet can use are wrong in any case, so only that nothing throws shows. */
+    /** Bytes behind the 4608 that the largest sheet can use are wrong anyway: only that nothing throws can be seen. */
     private static void nothingBeyondFiveThousand() {
         SheetRows sheet = new SheetRows(48, 48);
         for (int i = 0; i < 6000; i++) {
