@@ -1,3 +1,4 @@
+import java.util.Arrays;
 import java.util.function.IntSupplier;
 
 /** What the tests share: counting wrong answers, and making sheets from pictures in letters. */
@@ -94,6 +95,20 @@ final class Check {
     static void addAll(SheetRows sheet, int... octets) {
         for (int octet : octets) {
             sheet.add((byte) octet);
+        }
+    }
+
+    /** A sheet made by adding and unpacking: large ones too take few calls. */
+    static SheetRows sheetOfOctets(int width, int height, int... octets) {
+        SheetRows sheet = new SheetRows(width, height);
+        addAll(sheet, octets);
+        due("unpack() of " + Arrays.toString(octets), sheet.unpack(), 1);
+        return sheet;
+    }
+
+    static void duePart(String name, SheetRows sheet, int i, int... facts) {
+        for (int what = 0; what < facts.length; what++) {
+            due(name + " part(" + i + ", " + what + ")", sheet.part(i, what), facts[what]);
         }
     }
 

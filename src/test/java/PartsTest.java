@@ -13,12 +13,6 @@ public final class PartsTest {
         Check.end("PartsTest");
     }
 
-    private static void duePart(String name, SheetRows sheet, int i, int... facts) {
-        for (int what = 0; what < facts.length; what++) {
-            Check.due(name + " part(" + i + ", " + what + ")", sheet.part(i, what), facts[what]);
-        }
-    }
-
     /** The part whose first grey comes first is the first, even if another one has a lesser x. */
     private static void partsAreToldInOrderWithTheirBoxes() {
         SheetRows sheet = Check.sheetOf(20, 200,
@@ -28,19 +22,19 @@ public final class PartsTest {
             "##......#",
             "..#....##");
         Check.due("order parts()", sheet.parts(), 3);
-        duePart("order", sheet, 0, 5, 0, 6, 2, 4, 23, 5);
-        duePart("order", sheet, 1, 0, 1, 2, 4, 5, 3, 13);
-        duePart("order", sheet, 2, 7, 3, 8, 4, 3, 23, 11);
+        Check.duePart("order", sheet, 0, 5, 0, 6, 2, 4, 23, 5);
+        Check.duePart("order", sheet, 1, 0, 1, 2, 4, 5, 3, 13);
+        Check.duePart("order", sheet, 2, 7, 3, 8, 4, 3, 23, 11);
         Check.due("order part(3, 0)", sheet.part(3, 0), SheetRows.NONE);
     }
 
     private static void cornersHangTogether() {
         SheetRows falling = Check.sheetOf(0, 255, "#...", ".#..", "..#.", "....");
         Check.due("falling parts()", falling.parts(), 1);
-        duePart("falling", falling, 0, 0, 0, 2, 2, 3, 3, 3);
+        Check.duePart("falling", falling, 0, 0, 0, 2, 2, 3, 3, 3);
         SheetRows rising = Check.sheetOf(0, 255, "..#.", ".#..", "#...", "....");
         Check.due("rising parts()", rising.parts(), 1);
-        duePart("rising", rising, 0, 0, 0, 2, 2, 3, 3, 3);
+        Check.duePart("rising", rising, 0, 0, 0, 2, 2, 3, 3, 3);
     }
 
     private static void edgesDoNotHangTogetherRoundTheSheet() {
@@ -50,8 +44,8 @@ public final class PartsTest {
             "#.....",
             "#.....");
         Check.due("edges parts()", sheet.parts(), 2);
-        duePart("edges", sheet, 0, 4, 0, 5, 1, 3, 14, 1);
-        duePart("edges", sheet, 1, 0, 1, 0, 3, 3, 0, 6);
+        Check.duePart("edges", sheet, 0, 4, 0, 5, 1, 3, 14, 1);
+        Check.duePart("edges", sheet, 1, 0, 1, 0, 3, 3, 0, 6);
         SheetRows top = Check.sheetOf(0, 255, "#....", ".....", ".....", "##...");
         Check.due("top and bottom parts()", top.parts(), 0);
     }
@@ -64,8 +58,8 @@ public final class PartsTest {
             "...##....",
             "#..#.....");
         Check.due("specks parts()", sheet.parts(), 2);
-        duePart("specks", sheet, 0, 8, 0, 8, 2, 3, 24, 3);
-        duePart("specks", sheet, 1, 3, 3, 4, 4, 3, 10, 10);
+        Check.duePart("specks", sheet, 0, 8, 0, 8, 2, 3, 24, 3);
+        Check.duePart("specks", sheet, 1, 3, 3, 4, 4, 3, 10, 10);
     }
 
     private static void windingPartIsOne() {
@@ -78,19 +72,19 @@ public final class PartsTest {
             "#..........",
             "#..........");
         Check.due("winding parts()", sheet.parts(), 3);
-        duePart("winding", sheet, 0, 1, 1, 3, 3, 5, 10, 9);
-        duePart("winding", sheet, 1, 5, 1, 7, 3, 5, 30, 9);
-        duePart("winding", sheet, 2, 9, 1, 10, 3, 3, 28, 6);
+        Check.duePart("winding", sheet, 0, 1, 1, 3, 3, 5, 10, 9);
+        Check.duePart("winding", sheet, 1, 5, 1, 7, 3, 5, 30, 9);
+        Check.duePart("winding", sheet, 2, 9, 1, 10, 3, 3, 28, 6);
     }
 
     private static void highOnesAreDarkOnInvertedSheets() {
         SheetRows sheet = Check.sheetOf(240, 10, "##....", "#.....", "......");
         Check.due("inverted()", sheet.inverted(), true);
         Check.due("inverted parts()", sheet.parts(), 1);
-        duePart("inverted", sheet, 0, 0, 0, 1, 1, 3, 1, 1);
+        Check.duePart("inverted", sheet, 0, 0, 0, 1, 1, 3, 1, 1);
         SheetRows half = Check.sheetOf(240, 10, "###", "...");
         Check.due("half parts()", half.parts(), 1);
-        duePart("half", half, 0, 0, 1, 2, 1, 3, 3, 3);
+        Check.duePart("half", half, 0, 0, 1, 2, 1, 3, 3, 3);
         Check.due("all 255 parts()", new SheetRows(5, 5).parts(), 0);
         Check.due("all 0 parts()", Check.sheetOf(0, 0, "....", "....").parts(), 0);
     }
@@ -100,7 +94,7 @@ public final class PartsTest {
         Check.due("before parts: part(0, 4)", sheet.part(0, 4), SheetRows.NONE);
         Check.due("parts()", sheet.parts(), 1);
         sheet.put(3, 0, (byte) 0);
-        duePart("after put", sheet, 0, 0, 0, 2, 0, 3, 3, 0);
+        Check.duePart("after put", sheet, 0, 0, 0, 2, 0, 3, 3, 0);
         sheet.side(1);
         sheet.turn(32);
         sheet.turn(-32);
@@ -109,9 +103,9 @@ public final class PartsTest {
         sheet.inverted();
         sheet.pack();
         sheet.unpack();
-        duePart("after others", sheet, 0, 0, 0, 2, 0, 3, 3, 0);
+        Check.duePart("after others", sheet, 0, 0, 0, 2, 0, 3, 3, 0);
         Check.due("parts() again", sheet.parts(), 1);
-        duePart("again", sheet, 0, 0, 1, 3, 1, 4, 6, 4);
+        Check.duePart("again", sheet, 0, 0, 1, 3, 1, 4, 6, 4);
         sheet.side(3);
         Check.due("parts() on a bright sheet", sheet.parts(), 0);
         Check.due("part(0, 0) on a bright sheet", sheet.part(0, 0), SheetRows.NONE);
@@ -144,9 +138,9 @@ public final class PartsTest {
             }
         }
         Check.due("many parts()", many.parts(), 288);
-        duePart("many", many, 287, 44, 46, 46, 46, 3, 135, 138);
+        Check.duePart("many", many, 287, 44, 46, 46, 46, 3, 135, 138);
         Check.due("many part(288, 0)", many.part(288, 0), SheetRows.NONE);
         Check.due("large parts()", large.parts(), 1);
-        duePart("large", large, 0, 0, 0, 47, 23, 1152, 27072, 13248);
+        Check.duePart("large", large, 0, 0, 0, 47, 23, 1152, 27072, 13248);
     }
 }
