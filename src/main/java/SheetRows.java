@@ -262,7 +262,7 @@ public final class SheetRows {
     private void reachPart(int start) {
         reachedCount = 0;
         reach(start);
-        for (int next = 0; next < reachedCount; next++) {
+        for (int next = 0; next < reachedCount && next < reached.length; next++) {
             reachAround(reached[next] % width, reached[next] / width);
         }
     }

@@ -5,10 +5,12 @@ public final class CollectEdgesTest {
     private static final int[][] GREYS = {{1, 2, 3}, {4, 5, 6}};
 
     public static void main(String[] args) {
-        nothingIsCollectedBeyond5000();
+        readingsBehind5000AreTheSame();
+        the5000thIsCollectedAndTheNextIsNot();
         theLongestReadingIsCollectedWhole();
         stretchesNeedNotBeAsLongAsCanBe();
         theSmallestSheetIsRead();
+        aReadingLikeTheSheetIsRightToo();
         numbersAreNotBelowZero();
         aNumberThatIsZeroIsWrong();
         aNumberBeyondTheSheetIsWrong();
@@ -46,10 +48,10 @@ public final class CollectEdgesTest {
     }
 
     /**
-     * "it is not when there are 5000": no reading goes beyond byte 4608, so what is seen is that the bytes behind
-     * 5000 neither throw nor begin anew. (An object that is used for 512 calls alone cannot come so far.)
+     * "it is not when there are 5000": no reading goes beyond byte 4608, so what calls can tell is that the bytes
+     * behind 5000 neither throw nor begin anew. (An object that is used for 512 calls alone cannot come so far.)
      */
-    private static void nothingIsCollectedBeyond5000() {
+    private static void readingsBehind5000AreTheSame() {
         for (int more : new int[] {0, 1, 2, 4608, 5000}) {
             SheetRows sheet = new SheetRows(48, 48);
             for (int i = 0; i < 5000 + more; i++) {
@@ -59,6 +61,22 @@ public final class CollectEdgesTest {
             Check.due("after it unpack()", sheet.unpack(), -1);
             Check.due("after it grey(0, 0)", sheet.grey(0, 0), 255);
         }
+    }
+
+    /** "it is not when there are 5000": no call can tell it, so what the object holds is looked at. */
+    private static void the5000thIsCollectedAndTheNextIsNot() {
+        SheetRows sheet = new SheetRows(2, 2);
+        for (int i = 0; i < 4999; i++) {
+            sheet.add((byte) 1);
+        }
+        String before = Held.by(sheet);
+        sheet.add((byte) 2);
+        String full = Held.by(sheet);
+        Check.due("the 5000th is collected", full.equals(before), false);
+        sheet.add((byte) 3);
+        Check.due("the 5001st is not collected", Held.by(sheet).equals(full), true);
+        sheet.add((byte) 4);
+        Check.due("the 5002nd is not collected", Held.by(sheet).equals(full), true);
     }
 
     /** The 4608 bytes that the largest sheet can take are all collected, and one more is seen to be. */
@@ -102,6 +120,11 @@ public final class CollectEdgesTest {
         Check.addAll(sheet, 1, 7, 1);
         Check.due("1 x 1 unpack() of more", sheet.unpack(), -3);
         Check.due("1 x 1 grey(0, 0) stays", sheet.grey(0, 0), 0);
+    }
+
+    /** "1, and it is the sheet": though no grey becomes another one. */
+    private static void aReadingLikeTheSheetIsRightToo() {
+        dueRight(GREYS, 1, 1, 1, 2, 1, 3, 1, 4, 1, 5, 1, 6);
     }
 
     /** The bytes from -128 to -1 are numbers from 128 to 255, of greys and as greys. */
