@@ -250,7 +250,7 @@ public final class PartsEdgesTest {
         }
     }
 
-    /** "NONE when there is none such": 7 times the last three comes round to 3, to 5 and to 1. */
+    /** "NONE when there is none such": 7 times the last three comes round to 3, to 2 and to 6. */
     private static void thereIsNoPartBehindTheLast() {
         SheetRows sheet = dueParts("two bars", 2, "###....", ".......", "...####");
         for (int i : new int[] {2, 3, 7, 1000, Integer.MAX_VALUE, 613566757, 1840700270, 1227133514}) {

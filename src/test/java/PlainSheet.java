@@ -1,3 +1,4 @@
+import java.util.Arrays;
 import java.util.ArrayDeque;
 import java.util.ArrayList;
 import java.util.List;
@@ -21,7 +22,7 @@ final class PlainSheet {
     private int[][] brightGreys() {
         int[][] bright = new int[height][width];
         for (int[] row : bright) {
-            java.util.Arrays.fill(row, 255);
+            Arrays.fill(row, 255);
         }
         return bright;
     }

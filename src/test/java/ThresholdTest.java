@@ -1,3 +1,5 @@
+import java.util.Arrays;
+
 /** Promises 3 and 13: threshold, inverted. */
 public final class ThresholdTest {
     public static void main(String[] args) {
@@ -13,7 +15,7 @@ public final class ThresholdTest {
 
     private static void due(int[] row, int threshold, boolean inverted) {
         SheetRows sheet = Check.sheetOfGreys(new int[][] {row});
-        String name = java.util.Arrays.toString(row);
+        String name = Arrays.toString(row);
         Check.due(name + " threshold()", sheet.threshold(), threshold);
         Check.due(name + " inverted()", sheet.inverted(), inverted);
     }

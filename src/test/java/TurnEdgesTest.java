@@ -12,7 +12,7 @@ public final class TurnEdgesTest {
         oneColumnStays();
         theFirstColumnStays();
         likeGreysAreNoOthers();
-        allGreysMayBecomeOthers();
+        allButTheFirstColumnMayBecomeOthers();
         Check.end("TurnEdgesTest");
     }
 
@@ -91,7 +91,7 @@ public final class TurnEdgesTest {
         dueRow(-32, 47, 46, 47);
     }
 
-    /** On three rows 100 x 47 / 32 = 146 comes to 2 further down, -147 to where it was; -100 x 46 / 32 = -144 too. */
+    /** At x = 47, by 100: 146, on three rows the same as 2; by -100: -147, by -98: -144, as 0; by -99: -146, as 1. */
     private static void greysComeRoundMoreThanOnce() {
         SheetRows down = threeRows();
         down.turn(100);
@@ -151,7 +151,7 @@ public final class TurnEdgesTest {
         Check.dueGreys("one column's greys turn(32)", sheet, new int[][] {{1, 9, 3}, {1, 9, 3}, {1, 2, 3}});
     }
 
-    private static void allGreysMayBecomeOthers() {
+    private static void allButTheFirstColumnMayBecomeOthers() {
         SheetRows sheet = Check.sheetOfGreys(new int[][] {{1, 2, 3}, {4, 5, 6}});
         Check.due("turn(-1)", sheet.turn(-1), 4);
         Check.dueGreys("turn(-1)", sheet, new int[][] {{1, 5, 6}, {4, 2, 3}});

@@ -1,3 +1,5 @@
+import java.util.Arrays;
+
 /** Promises 10 and 11: add, unpack. */
 public final class UnpackTest {
     private static final int[][] GREYS = {{1, 2, 3}, {4, 5, 6}};
@@ -36,7 +38,7 @@ public final class UnpackTest {
     }
 
     private static void dueWrong(int place, int... octets) {
-        String name = java.util.Arrays.toString(octets);
+        String name = Arrays.toString(octets);
         SheetRows sheet = given(octets);
         Check.due(name + " unpack()", sheet.unpack(), -1 - place);
         Check.dueGreys(name + " unpack()", sheet, GREYS);
