@@ -90,10 +90,10 @@ public final class PackEdgesTest {
     }
 
     private static void noTwoGreysAlike() {
-        SheetRows sheet = new SheetRows(20, 10);
-        int[] due = new int[400];
-        for (int i = 0; i < 200; i++) {
-            sheet.put(i % 20, i / 20, (byte) (i % 2));
+        SheetRows sheet = new SheetRows(15, 10);
+        int[] due = new int[300];
+        for (int i = 0; i < 150; i++) {
+            sheet.put(i % 15, i / 15, (byte) (i % 2));
             due[2 * i] = 1;
             due[2 * i + 1] = i % 2;
         }

@@ -74,7 +74,7 @@ public final class ThresholdEdgesTest {
         due(0, 0);
     }
 
-    /** "divided by how many they are, cut": 3 at t = 3, 4 at t = 0; round 4, a mean that is not cut, it would be 1 at t = 0. */
+    /** "divided by how many they are, cut": 3 at t = 3, 4 at t = 0, and there 1 round a mean that is not cut. */
     private static void meansAreCut() {
         due(3, 0, 3, 4, 4, 4, 4);
     }
