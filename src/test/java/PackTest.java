@@ -32,13 +32,17 @@ public final class PackTest {
 
     private static void noTwoAlike() {
         SheetRows sheet = new SheetRows(48, 48);
-        for (int i = 0; i < 48 * 48; i += 2) {
-            sheet.put(i % 48, i / 48, (byte) 3);
+        for (int y = 0; y < 48; y++) {
+            Check.addAll(sheet, 48, y % 3);
         }
+        Check.due("rows of 0, 1 and 2 unpack()", sheet.unpack(), 1);
+        // Each column one further up than the one before it: the grey at x, y is (x + y) % 3.
+        Check.due("turn(-32)", sheet.turn(-32), 1536);
         Check.due("no two alike pack()", sheet.pack(), 4608);
-        Check.due("octet(4605)", sheet.octet(4605), 3);
-        Check.due("octet(4606)", sheet.octet(4606), 1);
-        Check.due("octet(4607)", sheet.octet(4607), -1);
+        for (int i = 4508; i < 4608; i += 2) {
+            Check.due("octet(" + i + ")", sheet.octet(i), 1);
+            Check.due("octet(" + (i + 1) + ")", sheet.octet(i + 1), (i / 2 % 48 + i / 96) % 3);
+        }
         Check.dueOutside("octet(4608)", () -> sheet.octet(4608));
     }
 

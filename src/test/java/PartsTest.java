@@ -9,7 +9,8 @@ public final class PartsTest {
         highOnesAreDarkOnInvertedSheets();
         partsStayUntilFoundAgain();
         noSuchPart();
-        manyPartsAndLargeParts();
+        manyParts();
+        aLargePart();
         Check.end("PartsTest");
     }
 
@@ -124,23 +125,29 @@ public final class PartsTest {
         }
     }
 
-    private static void manyPartsAndLargeParts() {
-        SheetRows many = new SheetRows(48, 48);
-        SheetRows large = new SheetRows(48, 48);
-        for (int y = 0; y < 48; y++) {
-            for (int x = 0; x < 48; x++) {
-                if (y % 2 == 0 && x % 4 != 3) {
-                    many.put(x, y, (byte) 0);
-                }
-                if (y < 24) {
-                    large.put(x, y, (byte) 0);
-                }
-            }
+    /** Three dark rows of each eight, and each column then four further down than the one before: upright bars. */
+    private static void manyParts() {
+        SheetRows sheet = new SheetRows(48, 48);
+        for (int bars = 0; bars < 6; bars++) {
+            Check.addAll(sheet, 144, 0, 240, 255);
         }
-        Check.due("many parts()", many.parts(), 288);
-        Check.duePart("many", many, 287, 44, 46, 46, 46, 3, 135, 138);
-        Check.due("many part(288, 0)", many.part(288, 0), SheetRows.NONE);
-        Check.due("large parts()", large.parts(), 1);
-        Check.duePart("large", large, 0, 0, 0, 47, 23, 1152, 27072, 13248);
+        Check.due("dark rows unpack()", sheet.unpack(), 1);
+        Check.due("dark rows parts()", sheet.parts(), 6);
+        sheet.turn(64);
+        sheet.turn(64);
+        Check.due("many parts()", sheet.parts(), 288);
+        for (int i : new int[] {0, 1, 23, 24, 47, 48, 100, 200, 286, 287}) {
+            int x = 2 * (i % 24) + i / 24 % 2;
+            int y = 4 * (i / 24);
+            Check.duePart("many", sheet, i, x, y, x, y + 2, 3, 3 * x, 3 * y + 3);
+        }
+        Check.due("many part(288, 0)", sheet.part(288, 0), SheetRows.NONE);
+    }
+
+    private static void aLargePart() {
+        SheetRows sheet = Check.sheetOfOctets(48, 48, 240, 0, 240, 0, 240, 0, 240, 0, 192, 0,
+            240, 255, 240, 255, 240, 255, 240, 255, 192, 255);
+        Check.due("large parts()", sheet.parts(), 1);
+        Check.duePart("large", sheet, 0, 0, 0, 47, 23, 1152, 27072, 13248);
     }
 }

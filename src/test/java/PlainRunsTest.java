@@ -1,6 +1,8 @@
-/** All promises: long runs of calls, the same on a SheetRows and on the plain reading of the document. */
+import java.util.function.IntSupplier;
+
+/** All promises: runs of 512 calls, the same on a SheetRows and on the plain reading of the document. */
 public final class PlainRunsTest {
-    private static final int RUNS = 150;
+    private static final int RUNS = 400;
     private static final int CALLS = 512;
 
     // Made by counting on from the run's number, so that every time the same calls are made.
@@ -11,6 +13,7 @@ public final class PlainRunsTest {
     private final int height;
     private final int fewGreys;
     private final String run;
+    private int calls;
 
     public static void main(String[] args) {
         for (int seed = 0; seed < RUNS; seed++) {
@@ -39,20 +42,31 @@ public final class PlainRunsTest {
 
     private void go() {
         fillSheets();
-        for (int call = 0; call < CALLS; call++) {
-            oneCall(call);
+        while (calls < CALLS) {
+            oneCall();
+            sameGrey();
         }
-        sameGreys();
     }
 
-    /** Many greys at once, by calls that are not counted among the 512: these only set the stage. */
+    /** The same call on both, while the object has calls left: what it answers later is free. */
+    private void same(String call, IntSupplier got, IntSupplier want) {
+        if (calls < CALLS) {
+            calls++;
+            Check.due(run + "call " + calls + " " + call, Check.answerOf(got), Check.answerOf(want));
+        }
+    }
+
+    /** Many greys at the start: those of small sheets one by one, those of large ones by stretches. */
     private void fillSheets() {
+        if (width * height > CALLS / 4) {
+            sameAdds();
+            sameUnpack();
+            return;
+        }
         int bright = below(10);
         for (int i = 0; i < width * height; i++) {
             if (below(10) >= bright) {
-                byte v = anyGrey();
-                sheet.put(i % width, i / width, v);
-                plain.put(i % width, i / width, v);
+                samePut(i % width, i / width);
             }
         }
     }
@@ -66,89 +80,92 @@ public final class PlainRunsTest {
             : below(end);
     }
 
-    private void oneCall(int call) {
-        String at = run + "call " + call + " ";
+    private void oneCall() {
         switch (below(14)) {
-            case 0, 1, 2 -> samePut(at);
-            case 3 -> Check.due(at + "threshold()", sheet.threshold(), plain.threshold());
-            case 4 -> Check.due(at + "inverted()", sheet.inverted(), plain.inverted());
-            case 5 -> Check.due(at + "parts()", sheet.parts(), plain.parts());
-            case 6 -> sameParts(at);
-            case 7 -> Check.due(at + "skew()", sheet.skew(), plain.skew());
-            case 8 -> {
-                int b = below(210) - 105;
-                Check.due(at + "turn(" + b + ")", sheet.turn(b), plain.turn(b));
-            }
-            case 9 -> Check.due(at + "pack()", sheet.pack(), plain.pack());
-            case 10 -> sameOctet(at);
+            case 0, 1, 2 -> samePut(anyAround(width), anyAround(height));
+            case 3 -> same("threshold()", sheet::threshold, plain::threshold);
+            case 4 -> same("inverted()", () -> sheet.inverted() ? 1 : 0, () -> plain.inverted() ? 1 : 0);
+            case 5 -> same("parts()", sheet::parts, plain::parts);
+            case 6 -> samePart();
+            case 7 -> same("skew()", sheet::skew, plain::skew);
+            case 8 -> sameTurn();
+            case 9 -> same("pack()", sheet::pack, plain::pack);
+            case 10 -> sameOctet();
             case 11 -> sameAdds();
-            case 12 -> Check.due(at + "unpack()", sheet.unpack(), plain.unpack());
-            default -> {
-                int other = below(12) == 0 ? 3 : below(4) == 3 ? 4 : below(3);
-                Check.due(at + "side(" + other + ")", sheet.side(other), plain.side(other));
-            }
+            case 12 -> sameUnpack();
+            default -> sameSide();
         }
-        sameGrey(at);
     }
 
-    private void samePut(String at) {
-        int x = anyAround(width);
-        int y = anyAround(height);
+    private void samePut(int x, int y) {
         byte v = anyGrey();
-        int got = Check.putAnswer(sheet, x, y, v);
-        int want = Check.answerOf(() -> {
+        same("put(" + x + ", " + y + ", " + v + ")", () -> {
+            sheet.put(x, y, v);
+            return 0;
+        }, () -> {
             plain.put(x, y, v);
             return 0;
         });
-        Check.due(at + "put(" + x + ", " + y + ")", got, want);
     }
 
-    private void sameParts(String at) {
-        for (int i = -1; i < 20; i++) {
-            for (int what = -1; what < 8; what++) {
-                Check.due(at + "part(" + i + ", " + what + ")", sheet.part(i, what), plain.part(i, what));
-            }
+    /** All that can be asked of one part, of the first few more often than of later ones. */
+    private void samePart() {
+        int i = below(1 + below(20)) - (below(20) == 0 ? 1 : 0);
+        for (int what = -1; what < 8; what++) {
+            int asked = what;
+            same("part(" + i + ", " + what + ")", () -> sheet.part(i, asked), () -> plain.part(i, asked));
         }
     }
 
-    private void sameOctet(String at) {
-        int i = anyAround(2 * width * height);
-        Check.due(at + "octet(" + i + ")", Check.answerOf(() -> sheet.octet(i)), Check.answerOf(() -> plain.octet(i)));
+    private void sameTurn() {
+        int b = below(210) - 105;
+        same("turn(" + b + ")", () -> sheet.turn(b), () -> plain.turn(b));
     }
 
-    private void sameGrey(String at) {
+    private void sameOctet() {
+        int i = anyAround(below(2) == 0 ? 12 : 2 * width * height);
+        same("octet(" + i + ")", () -> sheet.octet(i), () -> plain.octet(i));
+    }
+
+    private void sameUnpack() {
+        same("unpack()", sheet::unpack, plain::unpack);
+    }
+
+    private void sameSide() {
+        int other = below(12) == 0 ? 3 : below(4) == 3 ? 4 : below(3);
+        same("side(" + other + ")", () -> sheet.side(other), () -> plain.side(other));
+    }
+
+    private void sameGrey() {
         int x = anyAround(width);
         int y = anyAround(height);
-        Check.due(at + "grey(" + x + ", " + y + ")",
-            Check.answerOf(() -> sheet.grey(x, y)), Check.answerOf(() -> plain.grey(x, y)));
+        same("grey(" + x + ", " + y + ")", () -> sheet.grey(x, y), () -> plain.grey(x, y));
     }
 
-    private void addBoth(int b) {
-        sheet.add((byte) b);
-        plain.add((byte) b);
+    private void sameAdd(int octet) {
+        same("add(" + octet + ")", () -> {
+            sheet.add((byte) octet);
+            return 0;
+        }, () -> {
+            plain.add((byte) octet);
+            return 0;
+        });
     }
 
     /** Stretches that fill the sheet, most often; now and then with something wrong in them. */
     private void sameAdds() {
         int left = width * height;
-        for (int pairs = 0; left > 0 && pairs < 60; pairs++) {
-            int count = Math.min(left, pairs < 50 ? 1 + below(Math.min(255, 1 + left / 3)) : 255);
+        int shortPairs = 5 + below(40);
+        for (int pairs = 0; left > 0 && pairs < shortPairs + 10; pairs++) {
+            int count = Math.min(left, pairs < shortPairs ? 1 + below(Math.min(255, 1 + left / 3)) : 255);
             left -= count;
-            addBoth(below(60) == 0 ? below(256) : count);
+            sameAdd(below(60) == 0 ? below(256) : count);
             if (below(60) != 0) {
-                addBoth(anyGrey());
+                sameAdd(anyGrey());
             }
         }
         if (below(10) == 0) {
-            addBoth(below(3));
-        }
-    }
-
-    private void sameGreys() {
-        for (int i = 0; i < width * height; i++) {
-            int x = i % width;
-            int y = i / width;
-            Check.due(run + "grey(" + x + ", " + y + ") at the end", sheet.grey(x, y), plain.grey(x, y));
+            sameAdd(below(3));
         }
     }
 }

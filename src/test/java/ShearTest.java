@@ -85,52 +85,51 @@ public final class ShearTest {
     /** A line that falls or rises is put level by the shear against it. */
     private static void skewFindsTheLean() {
         for (int b = -8; b <= 8; b++) {
-            SheetRows sheet = new SheetRows(48, 48);
+            int[] line = new int[48];
             for (int x = 0; x < 48; x++) {
-                int y = 20 + Math.floorDiv(b * x, 32);
-                sheet.put(x, y, (byte) 9);
+                line[x] = 20 + Math.floorDiv(b * x, 32);
             }
-            int lean = sheet.skew();
             // Rounding down makes -b not quite the shear against b, so the due lean is counted out here.
-            Check.due("lean of a line by " + b, lean, plainLean(sheet, 9));
-            int before = longestRow(sheet);
-            sheet.turn(lean);
-            Check.due("a line by " + b + " is more level", longestRow(sheet) >= before, true);
+            dueLean("a line by " + b, line, plainLean(line));
         }
         for (int b : new int[] {-8, -5, 3, 8}) {
-            SheetRows sheet = new SheetRows(48, 48);
+            int[] line = new int[48];
             for (int x = 0; x < 48; x++) {
-                sheet.put(x, 20 - Math.floorDiv(b * x, 32), (byte) 9);
+                line[x] = 20 - Math.floorDiv(b * x, 32);
             }
-            Check.due("lean against " + b, sheet.skew(), b);
-            sheet.turn(b);
-            Check.due("level after the lean's turn", longestRow(sheet), 48);
+            SheetRows sheet = dueLean("a line against " + b, line, b);
+            for (int x = 0; x < 48; x++) {
+                Check.due("level against " + b + " grey(" + x + ", 20)", sheet.grey(x, 20), 9);
+            }
         }
     }
 
-    private static int longestRow(SheetRows sheet) {
-        int longest = 0;
-        for (int y = 0; y < 48; y++) {
-            int count = 0;
-            for (int x = 0; x < 48; x++) {
-                count += sheet.grey(x, y) == 9 ? 1 : 0;
-            }
-            longest = Math.max(longest, count);
+    /** The sheet of a line (its y for each x), after the turn by its lean. */
+    private static SheetRows dueLean(String name, int[] line, int lean) {
+        SheetRows sheet = new SheetRows(48, 48);
+        for (int x = 0; x < 48; x++) {
+            sheet.put(x, line[x], (byte) 9);
         }
-        return longest;
+        Check.due(name + " skew()", sheet.skew(), lean);
+        sheet.turn(lean);
+        for (int x = 0; x < 48; x++) {
+            int y = shearedRow(x, line[x], lean);
+            Check.due(name + " turned, grey(" + x + ", " + y + ")", sheet.grey(x, y), 9);
+        }
+        return sheet;
     }
 
-    private static int plainLean(SheetRows sheet, int grey) {
+    private static int shearedRow(int x, int y, int b) {
+        return Math.floorMod(y + (int) Math.floor(b * x / 32.0), 48);
+    }
+
+    private static int plainLean(int[] line) {
         int best = 0;
         long bestSum = -1;
         for (int b = -8; b <= 8; b++) {
             long[] rows = new long[48];
             for (int x = 0; x < 48; x++) {
-                for (int y = 0; y < 48; y++) {
-                    if (sheet.grey(x, y) == grey) {
-                        rows[Math.floorMod(y + (int) Math.floor(b * x / 32.0), 48)]++;
-                    }
-                }
+                rows[shearedRow(x, line[x], b)]++;
             }
             long sum = 0;
             for (long row : rows) {

@@ -11,7 +11,6 @@ public final class UnpackTest {
         nothingIsCollectedAfterwards();
         longStretches();
         whatWasPackedIsReadBack();
-        nothingBeyondFiveThousand();
         Check.end("UnpackTest");
     }
 
@@ -101,28 +100,32 @@ public final class UnpackTest {
     }
 
     private static void whatWasPackedIsReadBack() {
-        SheetRows from = new SheetRows(48, 48);
-        for (int i = 0; i < 48 * 48; i++) {
-            from.put(i % 48, i / 48, (byte) (i * i / 5000));
+        SheetRows small = new SheetRows(10, 10);
+        for (int i = 0; i < 100; i++) {
+            small.put(i % 10, i / 10, (byte) (i * i / 37));
         }
-        SheetRows to = new SheetRows(48, 48);
+        SheetRows read = readBack(small, 10, 10);
+        for (int i = 0; i < 100; i++) {
+            Check.due("read back " + i, read.grey(i % 10, i / 10), small.grey(i % 10, i / 10));
+        }
+        SheetRows large = new SheetRows(48, 48);
+        for (int i = 0; i < 48; i++) {
+            large.put(i * 7 % 48, i, (byte) i);
+        }
+        SheetRows readLarge = readBack(large, 48, 48);
+        for (int i = 0; i < 48; i++) {
+            Check.due("read back, large " + i, readLarge.grey(i * 7 % 48, i), i);
+        }
+        Check.due("read back, large pack()", readLarge.pack(), large.pack());
+    }
+
+    private static SheetRows readBack(SheetRows from, int width, int height) {
+        SheetRows to = new SheetRows(width, height);
         int length = from.pack();
         for (int i = 0; i < length; i++) {
             to.add(from.octet(i));
         }
         Check.due("unpack() of packed", to.unpack(), 1);
-        for (int i = 0; i < 48 * 48; i++) {
-            Check.due("read back " + i, to.grey(i % 48, i / 48), from.grey(i % 48, i / 48));
-        }
-    }
-
-    /** Bytes behind the 4608 that the largest sheet can use are wrong anyway: only that nothing throws can be seen. */
-    private static void nothingBeyondFiveThousand() {
-        SheetRows sheet = new SheetRows(48, 48);
-        for (int i = 0; i < 6000; i++) {
-            sheet.add((byte) 1);
-        }
-        Check.due("unpack() of 6000", sheet.unpack(), -4609);
-        Check.due("unpack() afterwards", sheet.unpack(), -1);
+        return to;
     }
 }
