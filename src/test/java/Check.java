@@ -41,13 +41,6 @@ final class Check {
         }
     }
 
-    static int putAnswer(SheetRows sheet, int x, int y, int grey) {
-        return answerOf(() -> {
-            sheet.put(x, y, (byte) grey);
-            return 0;
-        });
-    }
-
     /** A sheet with a grey for each '#' and the other for each '.'. */
     static SheetRows sheetOf(int hash, int dot, String... rows) {
         SheetRows sheet = new SheetRows(rows[0].length(), rows.length);
